@@ -36,8 +36,8 @@ public final class PackedLists {
     private final BlockView view = new BlockView();
     private final Packer packer = new Packer();
     private final Galloper galloper = new Galloper();
-    private final NumberReader numberReader = new NumberReader(text);
-    private final ExpressionReader expressionReader = new ExpressionReader(text);
+    private final NumberReader numberReader = new NumberReader();
+    private final ExpressionReader expressionReader = new ExpressionReader();
     /** Null as long as there is no result: objects that never see a query() need none of its rows. */
     private Joiner joiner;
 
@@ -91,7 +91,7 @@ public final class PackedLists {
         if (!isList(list)) {
             return BAD;
         }
-        int fault = numberReader.read();
+        int fault = numberReader.read(text);
         if (fault != NONE) {
             return FAULTS - fault;
         }
@@ -297,7 +297,7 @@ public final class PackedLists {
     // ---- expressions
 
     public int query() {
-        int fault = expressionReader.read();
+        int fault = expressionReader.read(text);
         if (fault != NONE) {
             return FAULTS - fault;
         }
@@ -947,16 +947,13 @@ public final class PackedLists {
     /** Reads a text as numbers. */
     private static final class NumberReader {
         final Row row = new Row(MAX_NUMBERS);
-        private final Row text;
+        private Row text;
         private int position;
         private int number;
 
-        NumberReader(Row text) {
-            this.text = text;
-        }
-
         /** Puts the numbers into the row, and returns the fault, NONE if there is none. */
-        int read() {
+        int read(Row source) {
+            text = source;
             position = 0;
             row.size = 0;
             skipBlanks();
@@ -1039,16 +1036,11 @@ public final class PackedLists {
         final Row postfix = new Row(MAX_TEXT);
         /** The signs and open parentheses whose right side is still being read. */
         private final Row waiting = new Row(MAX_TEXT);
-        private final Row text;
         private int depth;
         private boolean factorIsDue;
 
-        ExpressionReader(Row text) {
-            this.text = text;
-        }
-
         /** Returns the fault, NONE if there is none. */
-        int read() {
+        int read(Row text) {
             postfix.size = 0;
             waiting.size = 0;
             depth = 0;

@@ -11,6 +11,7 @@ public final class ChangingTest {
         promise2AddCutsLongBlocks();
         promise3Remove();
         promise3RemoveKeepsOtherBlocks();
+        promise3RemoveFromFullLists();
         promise4PackByLength();
         promise4PackAsWellAsPossible();
         promise5Load();
@@ -139,6 +140,22 @@ public final class ChangingTest {
         x.remove(0, 3);
         lengths(x, 0, "the first block goes", 3);
         DUE.is("first index of block 0", x.block(0, 0, 0), 0);
+    }
+
+    private static void promise3RemoveFromFullLists() {
+        for (int value : new int[] {0, 1, 100, 198, 199}) {
+            PackedLists x = new PackedLists();
+            Texts.load(x, 4, "0-199");
+            x.pack(4, 1);
+            DUE.is("200 blocks", x.list(4, 1), 200);
+            DUE.is("remove(4, " + value + ")", x.remove(4, value), value);
+            DUE.is("199 blocks", x.list(4, 1), 199);
+            DUE.is("greatest", x.list(4, 5), value == 199 ? 198 : 199);
+            DUE.is("base of block 99", x.block(4, 99, 2), value < 100 ? 100 : 99);
+            DUE.is("undo()", x.undo(), 2);
+            DUE.is("the last of 200 blocks", x.block(4, 199, 2), 199);
+            DUE.is("add to 200 blocks", x.add(4, 500), FULL);
+        }
     }
 
     private static void promise4PackByLength() {
