@@ -11,6 +11,7 @@ public final class TextTest {
         tooManyNumbers();
         goodExpressions();
         faultsOfExpressions();
+        faultsLeaveNothingBehind();
         DUE.finish();
     }
 
@@ -169,5 +170,24 @@ public final class TextTest {
         asExpression("(((((((( (A", -2009);
         asExpression("A|((((((((B|(A", -2012);
         asExpression("((((((((A", -2009);
+    }
+
+    private static void faultsLeaveNothingBehind() {
+        PackedLists x = new PackedLists();
+        Texts.load(x, 0, "1,2,3");
+        Texts.load(x, 1, "3,4");
+        Texts.load(x, 2, "4,5");
+        Texts.type(x, "(A-((B&(((((C|");
+        for (int times = 0; times < 100; times++) {
+            DUE.is("a text that ends too early", x.query(), -2014);
+        }
+        DUE.is("a good text behind it", Texts.query(x, "(A|B)&C-A"), 1);
+        DUE.is("its result", x.result(0), 4);
+        Texts.type(x, "1-200,x");
+        for (int times = 0; times < 100; times++) {
+            DUE.is("numbers with a fault", x.load(0), -2006);
+        }
+        DUE.is("good numbers behind it", Texts.load(x, 0, "7,9"), 2);
+        DUE.is("the first of them", x.list(0, 4), 7);
     }
 }
