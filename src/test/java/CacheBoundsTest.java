@@ -64,7 +64,8 @@ public final class CacheBoundsTest {
     }
 
     private static void hitsAndMisses() {
-        DUE.of("To look at a block is a hit if it is in the cache, otherwise a miss; a block that was missed comes into the cache, and if there are 4 already, the one whose latest look is longest ago leaves it.");
+        DUE.of("To look at a block is a hit if it is in the cache, otherwise a miss; a block that was missed comes "
+                + "into the cache, and if there are 4 already, the one whose latest look is longest ago leaves it.");
         PackedLists x = inOnes();
         looks("at first", x, 0, 0);
         x.at(0, 0);
@@ -116,24 +117,25 @@ public final class CacheBoundsTest {
     }
 
     private static void changesTakeOutAll() {
-        DUE.of("Changes of a list take all of its blocks out of the cache, also those that stay as they are, and also if the list is as before; undo() takes out all blocks of all lists.");
+        DUE.of("Changes of a list take all of its blocks out of the cache, also those that stay as they are, and also "
+                + "if the list is as before; undo() takes out all blocks of all lists.");
         for (int kind = 0; kind < 8; kind++) {
             PackedLists x = inOnes();
             Texts.query(x, "A");
             x.at(0, 7);
-            x.at(1, 0);
+            x.at(1, 3);
             x.at(0, 0);
             x.at(2, 7);
             change(x, kind);
             String when = "change " + kind;
             DUE.is(when + ": blocks in the cache", x.count(3), 2);
-            DUE.is(when + ": block 0 of list 1", x.cached(1, 0), 1);
+            DUE.is(when + ": block 3 of list 1", x.cached(1, 3), 1);
             DUE.is(when + ": block 7 of list 2", x.cached(2, 7), 1);
             looks(when, x, 0, 4);
             x.at(3, 0);
             x.at(3, 1);
             x.at(3, 2);
-            DUE.is(when + ": the longest ago leaves", x.cached(1, 0), 0);
+            DUE.is(when + ": the longest ago leaves", x.cached(1, 3), 0);
             DUE.is(when + ": the next one stays", x.cached(2, 7), 1);
         }
         PackedLists empty = new PackedLists();
@@ -267,7 +269,8 @@ public final class CacheBoundsTest {
     // ---- promise 19
 
     private static void findLooksAtOneBlock() {
-        DUE.of("Finds the first number of a list that is at least a value: if there is a block whose base is at most the value, the last such block is looked at, and no other one, whatever is found.");
+        DUE.of("Finds the first number of a list that is at least a value: if there is a block whose base is at most "
+                + "the value, the last such block is looked at, and no other one, whatever is found.");
         int[][] due = {
             {0, 0, NONE}, {9, 0, NONE}, {10, 0, 0}, {11, 1, 0}, {12, 1, 0}, {13, 2, 0}, {19, 2, 0}, {20, 2, 1},
             {22, 3, 1}, {23, 4, 1}, {29, 4, 1}, {30, 4, 2}, {31, NONE, 2}, {999999, NONE, 2},

@@ -13,6 +13,7 @@ public final class CostBoundsTest {
         theFewestBlocks();
         theLeastLengths();
         byALength();
+        nothingOfBefore();
         packsAnew();
         costByChangesNothing();
         partsAsOneBlock();
@@ -69,7 +70,8 @@ public final class CostBoundsTest {
     // ---- Costs
 
     private static void exceptionsNeedMoreBits() {
-        DUE.of("A block of n numbers with a width w, 0 to 20, has as exceptions the gaps that need more than w bits, e of them.");
+        DUE.of("A block of n numbers with a width w, 0 to 20, has as exceptions the gaps that need more than w bits, "
+                + "e of them.");
         block("a gap that needs just w bits", withGaps(equalBut(40, 4, 7)), 3, 0, 32 + 3 * 41);
         block("a gap that needs one bit more", withGaps(equalBut(40, 4, 8)), 3, 1, 32 + 3 * 41 + 28);
         block("width 0", withGaps(equalBut(40, 0, 1)), 0, 1, 32 + 28);
@@ -93,7 +95,8 @@ public final class CostBoundsTest {
     }
 
     private static void theLeastOfSeveralWidths() {
-        DUE.of("The best width of a sequence of numbers is the one with the least cost, of several the least one; each block has the best width of its numbers at any time.");
+        DUE.of("The best width of a sequence of numbers is the one with the least cost, of several the least one; "
+                + "each block has the best width of its numbers at any time.");
         block("27 gaps: 4 bits cost less", withGaps(equalBut(26, 7, 8)), 4, 0, 32 + 4 * 27);
         block("28 gaps: both cost the same", withGaps(equalBut(27, 7, 8)), 3, 1, 32 + 4 * 28);
         block("29 gaps: 3 bits cost less", withGaps(equalBut(28, 7, 8)), 3, 1, 32 + 3 * 29 + 28);
@@ -140,7 +143,9 @@ public final class CostBoundsTest {
     }
 
     private static void theLeastCost() {
-        DUE.of("To pack a list as well as possible means to cut it so that its cost is least; of several ways the one with the fewest blocks; of several the one whose sequence of block lengths is least (the first lengths that differ are compared).");
+        DUE.of("To pack a list as well as possible means to cut it so that its cost is least; of several ways the one "
+                + "with the fewest blocks; of several the one whose sequence of block lengths is least (the first "
+                + "lengths that differ are compared).");
         packed("", 0);
         packed("0", 32, 1);
         packed("0,999999", 52, 2);
@@ -165,6 +170,8 @@ public final class CostBoundsTest {
         packed("0-128", 96, 1, 64, 64);
         packed("0-199", 128, 8, 64, 64, 64);
         packed("0-39,50-89", 64, 40, 40);
+        packed("0-30,32,34,36,38,40-70", 32 + 32 + 34, 31, 35);
+        packed("0-10,12,14,16,18,20,25,30,35,40,45,50,55", 32 + 32 + 3 * 11, 11, 12);
         packed("0-69,100-169", 32 + 60 + 32, 12, 64, 64);
     }
 
@@ -200,6 +207,31 @@ public final class CostBoundsTest {
     }
 
     // ---- promises 4, 16 and 17
+
+    /** What was packed before, longer or shorter, wider or narrower, has no part in it. */
+    private static void nothingOfBefore() {
+        DUE.of("Packs a list anew.");
+        String full = "0-199";
+        String wide = "0-150,400000,800000";
+        String tie = "0-10,12,14,16,18,20,25,30,35,40,45,50,55";
+        for (String before : new String[] {full, wide, "7", "", "0-64", "0-63,999999"}) {
+            PackedLists x = new PackedLists();
+            Texts.load(x, 0, before);
+            DUE.is("a tie behind " + before, Texts.load(x, 1, tie), 23);
+            DUE.lengths("a tie behind " + before, x, 1, 11, 12);
+            DUE.is("its cost behind " + before, x.costBy(1, 0), 97);
+            x.costBy(0, 0);
+            DUE.is("costBy() of none behind " + before, x.costBy(2, 0), 0);
+            x.pack(0, 0);
+            x.add(3, 5);
+            DUE.is("costBy() of one number behind " + before, x.costBy(3, 0), 32);
+            x.costBy(0, 0);
+            Texts.load(x, 4, full);
+            DUE.lengths("200 numbers behind " + before, x, 4, 8, 64, 64, 64);
+            x.costBy(0, 0);
+            DUE.is("costBy() of 200 numbers behind " + before, x.costBy(4, 0), 128);
+        }
+    }
 
     private static void packsAnew() {
         DUE.of("0 to pack it as well as possible, or the length of blocks by which it is packed, 1 to 64");

@@ -13,9 +13,15 @@ public final class ErrorBoundsTest {
     private record Call(String name, long answer, ToLongFunction<PackedLists> call) {
     }
 
+    private interface Asked {
+        long answer(PackedLists x, int argument);
+    }
+
     public static void main(String[] args) {
         argumentsOutOfRange();
         argumentsInRange();
+        rangesOfArguments();
+        rangesOfKinds();
         notPossibleAtPresent();
         limits();
         theFirstErrorCounts();
@@ -136,14 +142,18 @@ public final class ErrorBoundsTest {
     }
 
     private static void badKinds(List<Call> calls) {
-        for (int far : new int[] {LEAST, -1, 0, GREATEST}) {
-            bad(calls, "list(what)", far == 0 ? 6 : far, x -> x.list(1, far == 0 ? 6 : far));
-            bad(calls, "block(what)", far == 0 ? 7 : far, x -> x.block(1, 0, far == 0 ? 7 : far));
-            bad(calls, "exception(what)", far == 0 ? 2 : far, x -> x.exception(2, 2, 0, far == 0 ? 2 : far));
-            bad(calls, "part(what)", far == 0 ? 3 : far, x -> x.part(1, 0, 1, far == 0 ? 3 : far));
-            bad(calls, "find(what)", far == 0 ? 2 : far, x -> x.find(1, 5, far == 0 ? 2 : far));
-            bad(calls, "common(what)", far == 0 ? 2 : far, x -> x.common(0, 1, far == 0 ? 2 : far));
-            bad(calls, "count(what)", far == 0 ? 10 : far, x -> x.count(far == 0 ? 10 : far));
+        badKind(calls, "list(what)", 6, (x, what) -> x.list(1, what));
+        badKind(calls, "block(what)", 7, (x, what) -> x.block(1, 0, what));
+        badKind(calls, "exception(what)", 2, (x, what) -> x.exception(2, 2, 0, what));
+        badKind(calls, "part(what)", 3, (x, what) -> x.part(1, 0, 1, what));
+        badKind(calls, "find(what)", 2, (x, what) -> x.find(1, 5, what));
+        badKind(calls, "common(what)", 2, (x, what) -> x.common(0, 1, what));
+        badKind(calls, "count(what)", 10, (x, what) -> x.count(what));
+    }
+
+    private static void badKind(List<Call> calls, String name, int tooGreat, Asked asked) {
+        for (int what : new int[] {LEAST, -1, tooGreat, GREATEST}) {
+            bad(calls, name, what, x -> asked.answer(x, what));
         }
     }
 
@@ -237,6 +247,51 @@ public final class ErrorBoundsTest {
         DUE.is("type(127)", x.type(127), 5);
     }
 
+    /** Refused are just the arguments outside of the range; tried are all near its ends, and the farthest ones. */
+    private static void range(String line, String call, int least, int greatest, Asked asked) {
+        DUE.of(line);
+        for (int off = -4; off <= 4; off++) {
+            for (int argument : new int[] {least + off, greatest + off}) {
+                DUE.is(call + " with " + argument + " is refused", asked.answer(busy(), argument) == BAD ? 1 : 0,
+                        argument < least || argument > greatest ? 1 : 0);
+            }
+        }
+        for (int argument : new int[] {LEAST, LEAST + 1, GREATEST - 1, GREATEST}) {
+            DUE.is(call + " with " + argument, asked.answer(busy(), argument), BAD);
+        }
+    }
+
+    private static void rangesOfArguments() {
+        range("`value`: 0 to 999999", "add()", 0, 999999, (x, value) -> x.add(4, value));
+        range("`value`: 0 to 999999", "remove()", 0, 999999, (x, value) -> x.remove(4, value));
+        range("`value`: 0 to 999999", "find()", 0, 999999, (x, value) -> x.find(0, value, 0));
+        range("`length`: 0 to pack it as well as possible", "pack()", 0, 64, (x, length) -> x.pack(0, length));
+        range("`length`: 0, or 1 to 64, as for pack()", "costBy()", 0, 64, (x, length) -> x.costBy(0, length));
+        range("`letter`: 0 to 127", "type()", 0, 127, (x, letter) -> x.type(letter));
+        range("`bits`: 0 to 20", "gaps()", 0, 20, (x, bits) -> x.gaps(0, bits));
+        range("`block`: the number of the block", "block()", 0, 3, (x, block) -> x.block(0, block, 0));
+        range("`block`: the number of the block", "cached()", 0, 3, (x, block) -> x.cached(0, block));
+        range("`first`: the index of its first number", "part()", 0, 199, (x, first) -> x.part(0, first, first, 0));
+        range("`last`: the index of its last number, from first to first + 63", "part()", 100, 163,
+                (x, last) -> x.part(0, 100, last, 0));
+        range("`index`: its index", "at()", 0, 199, (x, index) -> x.at(0, index));
+        range("`first`: the first list", "common()", 0, 5, (x, list) -> x.common(list, 0, 0));
+        range("`second`: the second list, perhaps the same", "common()", 0, 5, (x, list) -> x.common(0, list, 0));
+    }
+
+    private static void rangesOfKinds() {
+        range("`what`: 0: how many numbers it has;", "list()", 0, 5, (x, what) -> x.list(0, what));
+        range("`what`: 0: the index of its first number;", "block()", 0, 6, (x, what) -> x.block(0, 0, what));
+        range("`what`: 0: the index of its number in the block; 1: its high part", "exception()", 0, 1,
+                (x, what) -> x.exception(2, 2, 0, what));
+        range("`what`: 0: its best width; 1: its cost with this width; 2: its exceptions with this width", "part()",
+                0, 2, (x, what) -> x.part(0, 0, 9, what));
+        range("`what`: 0: its index; 1: the number", "find()", 0, 1, (x, what) -> x.find(0, 100, what));
+        range("`what`: 0: how many numbers they have in common; 1: how many indices are probed", "common()", 0, 1,
+                (x, what) -> x.common(0, 1, what));
+        range("`what`: 0: how many numbers all lists together have;", "count()", 0, 9, (x, what) -> x.count(what));
+    }
+
     private static void notPossibleAtPresent() {
         DUE.of("STATE: the call is not possible at present, as described.");
         for (Call call : refusedAtFirst()) {
@@ -262,7 +317,8 @@ public final class ErrorBoundsTest {
     }
 
     private static void theFirstErrorCounts() {
-        DUE.of("If several of them apply to a call, the one that comes first in the description of the result is returned.");
+        DUE.of("If several of them apply to a call, the one that comes first in the description of the result is "
+                + "returned.");
         PackedLists x = withFullText();
         DUE.is("add(): BAD before STATE and FULL", x.add(6, 9), BAD);
         DUE.is("add(): BAD before FULL", x.add(0, 1000000), BAD);

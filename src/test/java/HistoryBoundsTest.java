@@ -83,7 +83,8 @@ public final class HistoryBoundsTest {
     }
 
     private static void atMost8States() {
-        DUE.of("A history of at most 8 states is kept, each of which consists of all lists with their blocks: each change records the state before it, and when there are 8 already, the oldest one is dropped.");
+        DUE.of("A history of at most 8 states is kept, each of which consists of all lists with their blocks: each "
+                + "change records the state before it, and when there are 8 already, the oldest one is dropped.");
         for (int changes = 0; changes <= 18; changes++) {
             PackedLists x = withStates(changes);
             int states = Math.min(changes, 8);
@@ -196,7 +197,8 @@ public final class HistoryBoundsTest {
     }
 
     private static void loadOfFaults() {
-        DUE.of("Returns the number of numbers; BAD; -2000 - p if the text has the fault p as numbers (the text stays).");
+        DUE.of("Returns the number of numbers; BAD; -2000 - p if the text has the fault p as numbers (the text "
+                + "stays).");
         PackedLists x = new PackedLists();
         Texts.load(x, 0, "4");
         DUE.is("fault 0", Texts.load(x, 0, "-"), -2000);
@@ -242,7 +244,8 @@ public final class HistoryBoundsTest {
     }
 
     private static void storeAnswers() {
-        DUE.of("Returns the number of numbers; BAD; STATE if there is no result; FULL if it has more than 200 numbers.");
+        DUE.of("Returns the number of numbers; BAD; STATE if there is no result; FULL if it has more than 200 "
+                + "numbers.");
         PackedLists x = new PackedLists();
         Texts.load(x, 0, "0-199");
         Texts.load(x, 1, "199,200");

@@ -20,6 +20,7 @@ public final class JoinBoundsTest {
         countsAtTheirEnds();
         countsOfAQuery();
         digestInLongArithmetic();
+        digestOfExceptions();
         digestOfResults();
         digestLeavesTheCache();
         DUE.finish();
@@ -49,7 +50,8 @@ public final class JoinBoundsTest {
 
     /** Rows that end within, with or behind a doubled step. */
     private static void stepsThatAreDoubled() {
-        DUE.of("While p + s < n: index p + s is probed; if its number is at least t, high = p + s, and this part ends; otherwise low becomes p + s, and s is doubled.");
+        DUE.of("While p + s < n: index p + s is probed; if its number is at least t, high = p + s, and this part "
+                + "ends; otherwise low becomes p + s, and s is doubled.");
         probes("0-1", "1", 1, 2);
         probes("0-2", "2", 1, 3);
         probes("0-3", "3", 1, 4);
@@ -74,7 +76,8 @@ public final class JoinBoundsTest {
     }
 
     private static void numbersFoundInARow() {
-        DUE.of("Then, while low + 1 < high, index (low + high) / 2 is probed; if its number is at least t, high becomes this index, otherwise low does.");
+        DUE.of("Then, while low + 1 < high, index (low + high) / 2 is probed; if its number is at least t, high "
+                + "becomes this index, otherwise low does.");
         int[] due = {0, 2, 3, 5, 5, 7, 7, 7, 7, 8, 8, 8, 8, 8, 8, 8};
         for (int number = 0; number < due.length; number++) {
             probes("0-15", String.valueOf(number), 1, due[number]);
@@ -85,7 +88,8 @@ public final class JoinBoundsTest {
     }
 
     private static void gallopsFromTheMiddle() {
-        DUE.of("In a row of ascending numbers with the indices 0 to n - 1, to gallop from index p to a number t means: index p is probed; if its number is at least t, the result is p.");
+        DUE.of("In a row of ascending numbers with the indices 0 to n - 1, to gallop from index p to a number t "
+                + "means: index p is probed; if its number is at least t, the result is p.");
         probes("0-15", "0,5", 2, 5);
         probes("0-9", "8,20", 1, 7 + 1);
         probes("0-9", "9,20", 1, 6);
@@ -96,7 +100,10 @@ public final class JoinBoundsTest {
     }
 
     private static void intersections() {
-        DUE.of("To intersect two rows, two indices i and j begin with 0, and as long as both are in their rows: if both numbers are equal, the number is taken, and both indices increase by 1 (this comparing probes no index); if that of the first row is less, i becomes the result of galloping in the first row from i to the other number; otherwise j likewise in the second row.");
+        DUE.of("To intersect two rows, two indices i and j begin with 0, and as long as both are in their rows: if "
+                + "both numbers are equal, the number is taken, and both indices increase by 1 (this comparing "
+                + "probes no index); if that of the first row is less, i becomes the result of galloping in the "
+                + "first row from i to the other number; otherwise j likewise in the second row.");
         probes("", "", 0, 0);
         probes("0-199", "", 0, 0);
         probes("0-199", "0-199", 200, 0);
@@ -110,7 +117,8 @@ public final class JoinBoundsTest {
     // ---- promise 21
 
     private static void queryGivesTheResult() {
-        DUE.of("Reads the text as an expression, and carries it out; what comes out is the result, which is kept until the next query() that returns no fault.");
+        DUE.of("Reads the text as an expression, and carries it out; what comes out is the result, which is kept "
+                + "until the next query() that returns no fault.");
         PackedLists x = withLists("1,2,3", "3,4");
         Texts.query(x, "A-B");
         DUE.result("at first", x, 1, 2);
@@ -175,6 +183,10 @@ public final class JoinBoundsTest {
         DUE.is("1200 numbers", Texts.query(x, "A|B|C|D|E|F"), 1200);
         DUE.is("the last of them", x.result(1199), 5199);
         DUE.is("behind the last of them", x.result(1200), NONE);
+        DUE.is("1200 numbers and 200", Texts.query(x, "(A|B|C|D|E|F)&F"), 200);
+        DUE.is("0, 1, 2, 4, .. 1024, and nine between 512 and 1024", x.count(7), 12 + 9);
+        DUE.is("200 numbers and 1200", Texts.query(x, "F&(A|B|C|D|E|F)"), 200);
+        DUE.is("the same in the second row", x.count(7), 12 + 9);
         DUE.is("1200 numbers and 1200 numbers", Texts.query(x, "(A|B|C|D|E|F)&(F|E|D|C|B|A)"), 1200);
         DUE.is("fault 0", Texts.query(x, ")"), -2000);
         DUE.is("fault 99", Texts.query(x, "A" + " ".repeat(98) + "A"), -2099);
@@ -184,7 +196,8 @@ public final class JoinBoundsTest {
     // ---- promises 22 and 23
 
     private static void resultAnswers() {
-        DUE.of("Returns the number; BAD if index is negative; STATE if there is no result; NONE if there are not so many.");
+        DUE.of("Returns the number; BAD if index is negative; STATE if there is no result; NONE if there are not so "
+                + "many.");
         PackedLists x = withLists("0,999999");
         DUE.is("result(-1) of none", x.result(-1), BAD);
         DUE.is("result(0) of none", x.result(0), STATE);
@@ -223,7 +236,11 @@ public final class JoinBoundsTest {
     // ---- promise 24
 
     private static void countsAtTheirEnds() {
-        DUE.of("0: how many numbers all lists together have; 1: blocks of all lists together; 2: the cost of all lists together; 3: blocks in the cache; 4: hits; 5: misses; 6: numbers of the result (NONE if there is none); 7: how many indices were probed by all \"&\" of the query() that gave the result (the other signs probe none; NONE if there is none); 8: states in the history; 9: bytes of the text");
+        DUE.of("0: how many numbers all lists together have; 1: blocks of all lists together; 2: the cost of all "
+                + "lists together; 3: blocks in the cache; 4: hits; 5: misses; 6: numbers of the result (NONE if "
+                + "there is none); 7: how many indices were probed by all \"&\" of the query() that gave the result "
+                + "(the other signs probe none; NONE if there is none); 8: states in the history; 9: bytes of the "
+                + "text");
         PackedLists x = new PackedLists();
         counts("at first", x, 0, 0, 0, 0, 0, 0, NONE, NONE, 0, 0);
         for (int list = 0; list < 6; list++) {
@@ -282,7 +299,11 @@ public final class JoinBoundsTest {
     }
 
     private static void digestInLongArithmetic() {
-        DUE.of("It is 619 at first; for each of the following numbers, in this order, it becomes 31 times itself plus the number (long arithmetic with overflow): count(0) to count(9); for each list list(l, 0) to list(l, 5), and for each of its blocks block(l, b, 0) to block(l, b, 6), its words, its exceptions (each of them exception(l, b, k, 0) and exception(l, b, k, 1)), and cached(l, b); for each list its numbers; the numbers of the result, if there is one; the bytes of the text.");
+        DUE.of("It is 619 at first; for each of the following numbers, in this order, it becomes 31 times itself plus "
+                + "the number (long arithmetic with overflow): count(0) to count(9); for each list list(l, 0) to "
+                + "list(l, 5), and for each of its blocks block(l, b, 0) to block(l, b, 6), its words, its "
+                + "exceptions (each of them exception(l, b, k, 0) and exception(l, b, k, 1)), and cached(l, b); for "
+                + "each list its numbers; the numbers of the result, if there is one; the bytes of the text.");
         DUE.is("a new object", new PackedLists().digest(), hashOf(
                 0, 0, 0, 0, 0, 0, -1, -1, 0, 0,
                 0, 0, 0, 0, -1, -1, 0, 0, 0, 0, -1, -1, 0, 0, 0, 0, -1, -1,
@@ -306,6 +327,22 @@ public final class JoinBoundsTest {
                 0, 2, 4, 6, 8, 3008, 999999, 7,
                 7,
                 0, 'z', 127));
+    }
+
+    /** The first gap of the block is the exception, and its high part the least one. */
+    private static void digestOfExceptions() {
+        PackedLists x = withLists("0,2-31");
+        long[] numbers = new long[10 + 6 + 7 + 3 + 5 * 6 + 31];
+        long[] ahead = {31, 1, 60, 0, 0, 0, -1, -1, 1, 0, 31, 1, 60, 1, 0, 31, 0, 31, 0, 0, 1, 60, 0, 1, 1, 0};
+        System.arraycopy(ahead, 0, numbers, 0, ahead.length);
+        for (int list = 1; list < 6; list++) {
+            numbers[ahead.length + 6 * list - 2] = NONE;
+            numbers[ahead.length + 6 * list - 1] = NONE;
+        }
+        for (int number = 2; number <= 31; number++) {
+            numbers[numbers.length - 32 + number] = number;
+        }
+        DUE.is("an exception of the first gap", x.digest(), hashOf(numbers));
     }
 
     private static void digestOfResults() {

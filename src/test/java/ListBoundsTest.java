@@ -56,7 +56,8 @@ public final class ListBoundsTest {
     }
 
     private static void atMost200Numbers() {
-        DUE.of("A list has at most 200 different numbers from 0 to 999999 in ascending order; their indices are counted from 0.");
+        DUE.of("A list has at most 200 different numbers from 0 to 999999 in ascending order; their indices are "
+                + "counted from 0.");
         PackedLists x = loaded("1-199");
         DUE.is("a 200th number", x.add(0, 999999), 199);
         DUE.is("a 201st number", x.add(0, 500), FULL);
@@ -95,7 +96,8 @@ public final class ListBoundsTest {
     }
 
     private static void blocksOf1To64() {
-        DUE.of("A list is cut into blocks, numbered from 0: sequences of 1 to 64 successive numbers of the list, which follow one another; an empty list has no blocks.");
+        DUE.of("A list is cut into blocks, numbered from 0: sequences of 1 to 64 successive numbers of the list, "
+                + "which follow one another; an empty list has no blocks.");
         PackedLists x = loaded("0-63");
         DUE.lengths("64 numbers of the least cost", x, 0, 64);
         x = loaded("0-64");
@@ -201,7 +203,8 @@ public final class ListBoundsTest {
     }
 
     private static void addChoosesTheBlock() {
-        DUE.of("It comes into the last block whose base is less than it, or the first block if there is none; an empty list gets a block.");
+        DUE.of("It comes into the last block whose base is less than it, or the first block if there is none; an "
+                + "empty list gets a block.");
         String text = "10,11,20,21,30,31";
         int[][] places = {{0, 0}, {9, 0}, {12, 0}, {19, 0}, {22, 1}, {29, 1}, {32, 2}, {999999, 2}};
         for (int[] place : places) {
@@ -228,7 +231,8 @@ public final class ListBoundsTest {
     }
 
     private static void addCutsAt65() {
-        DUE.of("If this block has 65 numbers then, it is cut into one with 32 numbers and, behind it, one with 33 numbers.");
+        DUE.of("If this block has 65 numbers then, it is cut into one with 32 numbers and, behind it, one with 33 "
+                + "numbers.");
         PackedLists x = packed("100-162", 64);
         x.add(0, 163);
         DUE.lengths("64 numbers stay together", x, 0, 64);
@@ -238,6 +242,11 @@ public final class ListBoundsTest {
             DUE.lengths("64 numbers and " + value, y, 0, 32, 33);
             DUE.is("base behind the cut, with " + value, y.block(0, 1, 2), value < 100 ? 131 : 132);
         }
+        PackedLists w = packed("1-40,100-139", 40);
+        w.add(0, 50);
+        DUE.lengths("41 numbers before 40", w, 0, 41, 40);
+        w.add(0, 150);
+        DUE.lengths("41 numbers behind 41", w, 0, 41, 41);
         PackedLists z = packed("0,2,4,6,8-27,30-69", 64);
         z.add(0, 29);
         DUE.lengths("64 numbers and one in the middle", z, 0, 32, 33);
@@ -346,7 +355,8 @@ public final class ListBoundsTest {
     // ---- promises 11 and 15
 
     private static void propertiesOfLists() {
-        DUE.of("0: how many numbers it has; 1: how many blocks; 2: its cost; 3: how many exceptions; 4: its least number; 5: its greatest number (4 and 5: NONE if it is empty)");
+        DUE.of("0: how many numbers it has; 1: how many blocks; 2: its cost; 3: how many exceptions; 4: its least "
+                + "number; 5: its greatest number (4 and 5: NONE if it is empty)");
         PackedLists x = loaded("0");
         int[] one = {1, 1, 32, 0, 0, 0};
         for (int what = 0; what < one.length; what++) {
@@ -369,7 +379,8 @@ public final class ListBoundsTest {
     }
 
     private static void gapsBetweenBlocks() {
-        DUE.of("Counts the gaps of a list that need so many bits; all gaps between successive numbers count, whether they are in the same block or not.");
+        DUE.of("Counts the gaps of a list that need so many bits; all gaps between successive numbers count, whether "
+                + "they are in the same block or not.");
         for (int length : new int[] {0, 1, 2, 3, 64}) {
             PackedLists x = packed("0,1,3,6,10,999999", length);
             int[] some = {1, 1, 2};

@@ -2,7 +2,7 @@ import java.util.ArrayList;
 import java.util.List;
 import java.util.Random;
 
-/** Promises 4 and 16, packing as well as possible: small lists against all ways to cut them, large ones against the model. */
+/** Promises 4 and 16, packing as well as possible: against all ways to cut small lists, against the model for large. */
 public final class PackingTest {
     private static final int[] GAPS = {0, 0, 0, 1, 1, 2, 3, 5, 7, 13, 15, 100, 255, 4000, 32767, 60000};
     private static final Due DUE = new Due("PackingTest");

@@ -20,6 +20,7 @@ public final class TextBoundsTest {
         theNinthLevel();
         textsThatEndTooEarly();
         theLeastFault();
+        faultsLeaveNoRest();
         typeAppends();
         eraseEmpties();
         DUE.finish();
@@ -77,7 +78,7 @@ public final class TextBoundsTest {
         asNumbers("", 0);
         asNumbers("1", 1);
         asNumbers("1,2", 2);
-        asNumbers("0,1,2,3,4,5,6,7,8,9,10,11,12,13,14,15,16,17,18,19,20,21,22,23,24,25,26,27,28,29,30,31,32,33,34,35", 36);
+        asNumbers("0,1,2,3,4,5,6,7,8,9,10,11,12,13,14,15,16,17,18,19,20,21,22,23,24,25,26,27,28,29,30", 31);
         asNumbers("1-2", 2);
         asNumbers("1-2-3", -2003);
         asNumbers("1-2,4-5,7-8,9", 7);
@@ -89,7 +90,8 @@ public final class TextBoundsTest {
     }
 
     private static void numbersOfDigits() {
-        DUE.of("A number is the longest possible sequence of at most 6 digits, with zeros ahead or without; a seventh digit cannot stand.");
+        DUE.of("A number is the longest possible sequence of at most 6 digits, with zeros ahead or without; a seventh "
+                + "digit cannot stand.");
         asNumbers("0", 1);
         asNumbers("000000", 1);
         asNumbers("000001", 1);
@@ -136,7 +138,9 @@ public final class TextBoundsTest {
     }
 
     private static void signs() {
-        DUE.of("\"|\" means the numbers that are in one of both sides or in both, \"-\" those of the left side that are not in the right one, \"^\" those that are in just one side, and \"&\" those that are in both; operators of a row are carried out from left to right.");
+        DUE.of("\"|\" means the numbers that are in one of both sides or in both, \"-\" those of the left side that "
+                + "are not in the right one, \"^\" those that are in just one side, and \"&\" those that are in "
+                + "both; operators of a row are carried out from left to right.");
         gives("A|D", 1, 2, 3, 4, 5, 6, 8);
         gives("A-D", 1, 3, 5, 6);
         gives("A^D", 1, 3, 5, 6, 8);
@@ -182,7 +186,8 @@ public final class TextBoundsTest {
     }
 
     private static void blanks() {
-        DUE.of("Blanks (byte 32) can stand before and after each number, letter and sign, and alone in a text without numbers.");
+        DUE.of("Blanks (byte 32) can stand before and after each number, letter and sign, and alone in a text without "
+                + "numbers.");
         asNumbers(" ", 0);
         asNumbers(" ".repeat(100), 0);
         asNumbers(" 1", 1);
@@ -242,7 +247,8 @@ public final class TextBoundsTest {
     }
 
     private static void numbersThatAreNotGreater() {
-        DUE.of("for a number that is not greater than all numbers before it in the text (behind \"-\", it may be equal to the one before it), it is the index of its first digit;");
+        DUE.of("for a number that is not greater than all numbers before it in the text (behind \"-\", it may be "
+                + "equal to the one before it), it is the index of its first digit;");
         asNumbers("5,5", -2002);
         asNumbers("5,6", 2);
         asNumbers("5,4", -2002);
@@ -266,7 +272,8 @@ public final class TextBoundsTest {
     }
 
     private static void tooManyNumbers() {
-        DUE.of("for a part with which there would be more than 200 numbers, the index behind the last digit of the part;");
+        DUE.of("for a part with which there would be more than 200 numbers, the index behind the last digit of the "
+                + "part;");
         asNumbers("1-200", 200);
         asNumbers("1-201", -2005);
         asNumbers("1 -  201  ", -2008);
@@ -332,6 +339,24 @@ public final class TextBoundsTest {
         asExpression(EIGHT + "(G", -2008);
         asExpression(EIGHT + "G(", -2008);
         asExpression("(A&", -2003);
+    }
+
+    private static void faultsLeaveNoRest() {
+        DUE.of("Results of -2000 and less, the faults of texts, are errors, too.");
+        PackedLists x = withLists();
+        Texts.type(x, "A-(B|((C^(D&(E-(F|(A&");
+        for (int times = 0; times < 40; times++) {
+            DUE.is("query() of a text that ends too early", x.query(), -2021);
+            DUE.is("load() of it", x.load(4), -2000);
+        }
+        DUE.is("a good expression behind it", Texts.query(x, "A-(B|D)&(C|D)^F"), 4);
+        DUE.result("its numbers", x, 1, 3, 5, 999999);
+        Texts.type(x, "1-99,101-199,300,");
+        for (int times = 0; times < 40; times++) {
+            DUE.is("load() of a text that ends too early", x.load(4), -2017);
+            DUE.is("query() of it", x.query(), -2000);
+        }
+        DUE.is("good numbers behind it", Texts.load(x, 4, "0-99,800-899"), 200);
     }
 
     // ---- promises 9 and 10

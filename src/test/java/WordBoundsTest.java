@@ -76,7 +76,8 @@ public final class WordBoundsTest {
     }
 
     private static void withoutRoomBetween() {
-        DUE.of("The low parts follow one another without room between, in the order of the numbers: bit j of the low part of number i of the block (i from 1 on) is bit w * (i - 1) + j of the block.");
+        DUE.of("The low parts follow one another without room between, in the order of the numbers: bit j of the low "
+                + "part of number i of the block (i from 1 on) is bit w * (i - 1) + j of the block.");
         words("one gap of one bit", withGaps(1), 1, 1);
         words("one gap of 20 bits", withGaps(999995), 20, 999995);
         words("gaps 1, 0, 3", withGaps(1, 0, 3), 2, 1, 0, 3);
@@ -121,7 +122,9 @@ public final class WordBoundsTest {
     // ---- promise 12
 
     private static void propertiesOfBlocks() {
-        DUE.of("0: the index of its first number; 1: its length; 2: its base; 3: its width; 4: how many exceptions it has; 5: its cost; 6: the number of its words, as many as its low parts need, 0 if these have no bits");
+        DUE.of("0: the index of its first number; 1: its length; 2: its base; 3: its width; 4: how many exceptions it "
+                + "has; 5: its cost; 6: the number of its words, as many as its low parts need, 0 if these have no "
+                + "bits");
         PackedLists x = new PackedLists();
         Texts.load(x, 0, "0-63,70,72,999999");
         x.pack(0, 64);
